@@ -302,10 +302,12 @@ public final class RulesTest {
     private static void weightErrors() {
         String[] texts = {"", "=", "range", "range=", "range=1,", "range=x", "range=12", "range=1,r", "range=1,rangex=2",
             "rang=1", "rangex", "Range=1", "rAnge=1", "range-1", "range=1;leap=2", "range=1,,leap=2", ",range=1",
-            "range=1,leap", "range=1,leap=", "range1", "leap=1,weak=2,unisom=3", "range=-1", "range=1leap=2", "range==1"};
+            "range=1,leap", "range=1,leap=", "range1", "leap=1,weak=2,unisom=3", "range=-1", "range=1leap=2", "range==1",
+            "range=:", "range=/", "leapa=1", "leapz=1", "leap`=1", "leap{=1"};
         int[] places = {0, 0, 5, 6, 8, 6, 7, 8, 8,
             0, 0, 0, 0, 5, 7, 8, 0,
-            12, 13, 5, 14, 6, 7, 6};
+            12, 13, 5, 14, 6, 7, 6,
+            6, 6, 0, 0, 4, 4};
         CounterpointChecker x = new CounterpointChecker();
         for (int i = 0; i < texts.length; i++) {
             String text = texts[i];
@@ -396,5 +398,13 @@ public final class RulesTest {
         x.setWeight(14, 0);
         CHECK.due("the cost with begin=0", 31, x::cost);
         CHECK.due("the number of faults", 7, () -> x.faults(0));
+
+        CounterpointChecker y = Check.withLines(4, "d4,c4", "-,b6,b6");
+        CHECK.dueText("the faults of the first and the last rule", "1.2:range=83 1.2:space=33 1.2:begin=33 2.1:range=83"
+            + " 2.1:space=35 2.1:cadence=1 2.1:suspend=35", Check.faultsOf(y));
+        CHECK.due("their cost", 7, y::cost);
+        y.setWeight(1, 3);
+        y.setWeight(16, 9);
+        CHECK.due("their cost with other weights", 19, y::cost);
     }
 }

@@ -73,6 +73,12 @@ public final class SuggestionsTest {
         CHECK.due("the highest pitch is allowed", 106, () -> x.better(1, 0));
         x.set(1, 59);
         CHECK.due("the pitch above it is not", 0, () -> x.better(1, 0) == 106 ? 1 : 0);
+        x.set(1, 84);
+        x.set(0, 84);
+        CHECK.due("the greatest code", 146, () -> x.better(1, 0));
+        x.set(0, 24);
+        x.set(1, 24);
+        CHECK.due("the least code of the least pitch", 43, () -> x.better(1, 0));
     }
 
     private static void betterErrors() {
@@ -149,6 +155,12 @@ public final class SuggestionsTest {
         CHECK.due("sharps in the bar before the last alone", 3, x::search);
         CHECK.due("d first", 88, () -> x.suggested(0));
         CHECK.due("then c sharp", 86, () -> x.suggested(1));
+        Check.type(x, "c4,c4").cantus();
+        x.setWeight(4, 1);
+        x.set(1, 84);
+        x.set(0, 83);
+        CHECK.due("b and b in vain, then b sharp and b", 4, x::search);
+        CHECK.due("the greatest code of all", 146, () -> x.suggested(0));
     }
 
     /** Lines whose searches end with a line at the very last trial, and at the one that is not made any more. */
