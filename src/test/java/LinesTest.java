@@ -247,10 +247,10 @@ public final class LinesTest {
     }
 
     private static void noteOf() {
-        CounterpointChecker x = new CounterpointChecker();
         String letters = "cdefgab";
         int[] heights = {0, 2, 4, 5, 7, 9, 11};
         for (int octave = 2; octave <= 6; octave++) {
+            CounterpointChecker x = new CounterpointChecker();
             for (int letter = 0; letter < 7; letter++) {
                 for (int alteration = -1; alteration <= 1; alteration++) {
                     int step = 7 * octave + letter;
@@ -264,6 +264,7 @@ public final class LinesTest {
                 }
             }
         }
+        CounterpointChecker x = new CounterpointChecker();
         CHECK.refused("noteOf(41, 0)", INDEX, () -> x.noteOf(41, 0));
         CHECK.refused("noteOf(147, 5)", INDEX, () -> x.noteOf(147, 5));
         CHECK.refused("noteOf(-1, 0)", INDEX, () -> x.noteOf(-1, 0));

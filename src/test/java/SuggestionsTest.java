@@ -41,15 +41,16 @@ public final class SuggestionsTest {
         String[] lines = {"c5,b4,c5,d5,c5", "-,g4,a4,b4,g4,f4,e4,c5,c5",
             "c5,d5,e5,f5,g5,f5,e5,d5,c5,b4,a4,g4,a4,f4,g4,b4,c5", "-,c5,c5,b4,b4,a4,a4,b4,c5"};
         for (int species = 1; species <= 4; species++) {
-            CounterpointChecker x = Check.withLines(species, "c4,d4,e4,d4,c4", lines[species - 1]);
-            Check.type(x, "range=3,leap=2,climax=4,weak=5,cadence=9").weights();
             int beats = new int[] {0, 1, 2, 4, 2}[species];
-            for (int i = species % 2 == 0 ? 1 : 0; i < x.count(1); i++) {
+            for (int i = species % 2 == 0 ? 1 : 0; i <= 4 * beats; i++) {
+                CounterpointChecker x = Check.withLines(species, "c4,d4,e4,d4,c4", lines[species - 1]);
+                Check.type(x, "range=3,leap=2,climax=4,weak=5,cadence=9").weights();
                 int bar = i / beats;
                 int beat = i % beats;
                 int best = 0;
                 for (int code = 146; code >= 42; code--) {
-                    boolean isIn = x.noteOf(code, 2) >= 36 && x.noteOf(code, 2) <= 72;
+                    int pitch = x.noteOf(code, 2);
+                    boolean isIn = pitch >= 36 && pitch <= 72;
                     if (isIn && (best == 0 || x.costWith(bar, beat, code) <= x.costWith(bar, beat, best))) {
                         best = code;
                     }
@@ -103,12 +104,11 @@ public final class SuggestionsTest {
         CHECK.refused("costWith of 147", ARGUMENT, () -> x.costWith(0, 1, 147));
         CHECK.refused("costWith for a rest", ELEMENT, () -> x.costWith(0, 0, 85));
         for (int code = 42; code <= 146; code++) {
-            int other = code;
-            int cost = x.costWith(0, 1, code);
-            CHECK.dueText("the line stays", "-,b4,c5", Check.textOf(x, false));
-            x.setNote(0, 1, code);
-            CHECK.due("the cost with " + other, cost, x::cost);
-            x.undo();
+            CounterpointChecker z = Check.withLines(2, "d4,c4", "-,b4,c5");
+            int cost = z.costWith(0, 1, code);
+            CHECK.dueText("the line stays", "-,b4,c5", Check.textOf(z, false));
+            z.setNote(0, 1, code);
+            CHECK.due("the cost with " + code, cost, z::cost);
         }
         CounterpointChecker y = Check.withLines(1, "d4,c4", "b4,b4");
         CHECK.due("the cost with c5", 1, () -> y.costWith(1, 0, 106));
