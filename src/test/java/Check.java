@@ -81,7 +81,8 @@ final class Check {
 
     static String textOf(CounterpointChecker x, boolean isCantus) {
         StringBuilder signs = new StringBuilder();
-        for (int i = 0; i < x.text(isCantus, -1); i++) {
+        int length = x.text(isCantus, -1);
+        for (int i = 0; i < length; i++) {
             signs.append((char) x.text(isCantus, i));
         }
         return signs.toString();
@@ -89,7 +90,8 @@ final class Check {
 
     static String explained(CounterpointChecker x, int fault) {
         StringBuilder signs = new StringBuilder();
-        for (int i = 0; i < x.explain(fault, -1); i++) {
+        int length = x.explain(fault, -1);
+        for (int i = 0; i < length; i++) {
             signs.append((char) x.explain(fault, i));
         }
         return signs.toString();
@@ -98,7 +100,8 @@ final class Check {
     /** All faults as explain tells them, with spaces between them. */
     static String faultsOf(CounterpointChecker x) {
         StringBuilder all = new StringBuilder();
-        for (int i = 0; i < x.faults(0); i++) {
+        int number = x.faults(0);
+        for (int i = 0; i < number; i++) {
             all.append(i == 0 ? "" : " ").append(explained(x, i));
         }
         return all.toString();

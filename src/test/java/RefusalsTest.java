@@ -58,21 +58,27 @@ public final class RefusalsTest {
             all.add(what == 8 && !withText ? "" : "" + x.count(what));
         }
         all.add(withText ? "" + x.errorPosition() : "");
+        for (int bar = 0; bar < 3; bar++) {
+            all.add(Script.outcome(x, "suggested " + bar));
+            for (int beat = -1; beat < 2; beat++) {
+                all.add(Script.outcome(x, "note " + bar + " " + beat));
+            }
+        }
+        all.add(Script.outcome(x, "cost"));
+    }
+
+    private static void tellAll(List<String> all, CounterpointChecker x, boolean withText) {
+        tell(all, x, withText);
         for (int rule = 1; rule <= 16; rule++) {
             all.add("" + x.weight(rule));
         }
-        for (int bar = 0; bar < x.count(10); bar++) {
-            all.add("" + x.suggested(bar));
-        }
-        all.add(Script.outcome(x, "given"));
-        all.add(Script.outcome(x, "made"));
         all.add(Script.outcome(x, "found"));
     }
 
     /** All that an object can tell, which is lost by it: what was saved, what can be taken back, what is typed. */
     private static String tale(CounterpointChecker x, boolean withText) {
         List<String> all = new ArrayList<>();
-        tell(all, x, withText);
+        tellAll(all, x, withText);
         if (withText) {
             all.add(Script.outcome(x, "weights"));
             all.add("" + x.errorPosition());
@@ -83,7 +89,7 @@ public final class RefusalsTest {
             tell(all, x, withText);
         }
         all.add(Script.outcome(x, "restore"));
-        tell(all, x, withText);
+        tellAll(all, x, withText);
         return String.join(" ", all);
     }
 
